@@ -95,10 +95,9 @@ public final class FieldMember {
         if (found == null) {
             return UNKNOWN;
         }
-        if (!(found instanceof Field)) {
+        if (!(found instanceof Field field)) {
             return CAST;
         }
-        Field field = (Field) found;
         if (field.told || !field.mayHaveConstant()) {
             return STATE;
         }
@@ -115,10 +114,9 @@ public final class FieldMember {
         if (found == null) {
             throw new ArrayIndexOutOfBoundsException("no such ENTRY");
         }
-        if (!(found instanceof Field)) {
+        if (!(found instanceof Field field)) {
             throw new ClassCastException("a MEMBER has no CONSTANT");
         }
-        Field field = (Field) found;
         return field.told ? Constants.asLong(field.kind, field.constant) : 0L;
     }
 
@@ -194,10 +192,9 @@ public final class FieldMember {
         if (found == null) {
             return UNKNOWN;
         }
-        if (!(found instanceof Member)) {
+        if (!(found instanceof Member member)) {
             return CAST;
         }
-        Member member = (Member) found;
         switch (what) {
             case 0: return member.parameters.size;
             case 1: return asNumber(member.varied);
@@ -212,10 +209,10 @@ public final class FieldMember {
         if (found == null) {
             throw new ArrayIndexOutOfBoundsException("no such ENTRY");
         }
-        if (!(found instanceof Member)) {
+        if (!(found instanceof Member member)) {
             throw new ClassCastException("a FIELD has no PARAMETERS");
         }
-        Row parameters = ((Member) found).parameters;
+        Row parameters = member.parameters;
         if (i < 0 || i >= parameters.size) {
             throw new ArrayIndexOutOfBoundsException("no such PARAMETER");
         }
@@ -279,7 +276,7 @@ public final class FieldMember {
         }
         int passed = 0;
         for (int e = 0; e < entryCount; e++) {
-            if (entries[e] instanceof Member && isLacking(type, (Member) entries[e])) {
+            if (entries[e] instanceof Member each && isLacking(type, each)) {
                 if (passed == i) {
                     return e;
                 }
@@ -393,7 +390,7 @@ public final class FieldMember {
 
     private boolean isDeclaredTwice(Member ended) {
         for (int e = 0; e < entryCount; e++) {
-            if (entries[e] instanceof Member && entries[e].type == ended.type && ended.isLike((Member) entries[e])) {
+            if (entries[e] instanceof Member each && each.type == ended.type && each.isLike(ended)) {
                 return true;
             }
         }
@@ -402,8 +399,8 @@ public final class FieldMember {
 
     private int ruleOfMeetings(Member ended) {
         for (int e = 0; e < entryCount; e++) {
-            if (meets(ended, entries[e])) {
-                int rule = ruleOfMeeting(ended, entries[e]);
+            if (entries[e] instanceof Member each && meets(ended, each)) {
+                int rule = ruleOfMeeting(ended, each);
                 if (rule != FREE) {
                     return rule;
                 }
@@ -414,27 +411,24 @@ public final class FieldMember {
 
     private int leastMet(Member ended) {
         for (int e = 0; e < entryCount; e++) {
-            if (meets(ended, entries[e])) {
+            if (entries[e] instanceof Member each && meets(ended, each)) {
                 return e;
             }
         }
         return NONE;
     }
 
-    private boolean meets(Member ended, Entry other) {
-        return other instanceof Member
-            && other.type != ended.type
-            && types.isBelow(ended.type, other.type)
+    private boolean meets(Member ended, Member other) {
+        return other.type != ended.type && types.isBelow(ended.type, other.type) && other.isLike(ended)
             && !ended.hasAny(PRIVATE) && !other.hasAny(PRIVATE)
-            && !isStaticOfFace(ended) && !isStaticOfFace(other)
-            && ended.isLike((Member) other);
+            && !isStaticOfFace(ended) && !isStaticOfFace(other);
     }
 
-    private boolean isStaticOfFace(Entry member) {
+    private boolean isStaticOfFace(Member member) {
         return member.hasAny(STATIC) && types.isFace(member.type);
     }
 
-    private int ruleOfMeeting(Entry ended, Entry met) {
+    private int ruleOfMeeting(Member ended, Member met) {
         if (met.hasAny(FINAL)) {
             return 22;
         }
@@ -447,7 +441,7 @@ public final class FieldMember {
         return Rules.sightOf(ended.marks) < Rules.sightOf(met.marks) ? 25 : FREE;
     }
 
-    private boolean mayStandForResult(Entry ended, Entry met) {
+    private boolean mayStandForResult(Member ended, Member met) {
         if (ended.kind == met.kind && ended.dims == met.dims) {
             return true;
         }
@@ -492,12 +486,11 @@ public final class FieldMember {
 
     private void markCandidates(int type, int name) {
         for (int e = 0; e < entryCount; e++) {
-            Entry each = entries[e];
-            candidates[e] = each instanceof Member && each.name == name && isReachedFrom(type, each);
+            candidates[e] = entries[e] instanceof Member each && each.name == name && isReachedFrom(type, each);
         }
     }
 
-    private boolean isReachedFrom(int type, Entry member) {
+    private boolean isReachedFrom(int type, Member member) {
         if (member.type == type) {
             return true;
         }
@@ -508,11 +501,8 @@ public final class FieldMember {
     private boolean markFitting(boolean byItems) {
         boolean any = false;
         for (int e = 0; e < entryCount; e++) {
-            fitting[e] = false;
-            if (candidates[e] && entries[e] instanceof Member) {
-                Member each = (Member) entries[e];
-                fitting[e] = takesArguments(each, byItems) && !isStoodFor(each);
-            }
+            fitting[e] = candidates[e] && entries[e] instanceof Member each
+                && takesArguments(each, byItems) && !isStoodFor(each);
             any = any || fitting[e];
         }
         return any;
@@ -520,11 +510,9 @@ public final class FieldMember {
 
     private boolean isStoodFor(Member member) {
         for (int e = 0; e < entryCount; e++) {
-            if (candidates[e] && entries[e] instanceof Member) {
-                Member other = (Member) entries[e];
-                if (other.type != member.type && types.isBelow(other.type, member.type) && other.isLike(member)) {
-                    return true;
-                }
+            if (candidates[e] && entries[e] instanceof Member each && each.type != member.type
+                && types.isBelow(each.type, member.type) && each.isLike(member)) {
+                return true;
             }
         }
         return false;
@@ -550,7 +538,7 @@ public final class FieldMember {
     private int nearestFitting(boolean byItems) {
         int nearest = CLASH;
         for (int e = 0; e < entryCount; e++) {
-            if (fitting[e] && isNearest(e, byItems)) {
+            if (fitting[e] && entries[e] instanceof Member each && isNearest(each, byItems)) {
                 if (nearest != CLASH) {
                     return CLASH;
                 }
@@ -560,24 +548,21 @@ public final class FieldMember {
         return nearest;
     }
 
-    private boolean isNearest(int entry, boolean byItems) {
+    private boolean isNearest(Member member, boolean byItems) {
         for (int e = 0; e < entryCount; e++) {
-            if (e != entry && fitting[e] && !fitsOther(entryAt(entry), entries[e], byItems)) {
+            if (fitting[e] && entries[e] instanceof Member each && !fitsPlaceByPlace(member, each, byItems)) {
                 return false;
             }
         }
         return true;
     }
 
-    private boolean fitsOther(Entry entry, Entry otherEntry, boolean byItems) {
-        if (!(entry instanceof Member) || !(otherEntry instanceof Member)) {
-            return false;
-        }
-        Member member = (Member) entry;
-        Member other = (Member) otherEntry;
+    /** Every MEMBER FITS itself so. */
+    private boolean fitsPlaceByPlace(Member member, Member other, boolean byItems) {
         int places = Math.max(arguments.size, Math.max(member.parameters.size, other.parameters.size));
         for (int i = 0; i < places; i++) {
-            if (!fits(member.kindAt(i, byItems), member.dimsAt(i, byItems), other.kindAt(i, byItems), other.dimsAt(i, byItems))) {
+            if (!fits(member.kindAt(i, byItems), member.dimsAt(i, byItems),
+                other.kindAt(i, byItems), other.dimsAt(i, byItems))) {
                 return false;
             }
         }
@@ -604,11 +589,9 @@ public final class FieldMember {
             return false;
         }
         for (int e = 0; e < entryCount; e++) {
-            if (entries[e] instanceof Member) {
-                Member other = (Member) entries[e];
-                if (types.isBelow(type, other.type) && mayFill(other) && other.isLike(member)) {
-                    return false;
-                }
+            if (entries[e] instanceof Member each && each.isLike(member)
+                && types.isBelow(type, each.type) && mayFill(each)) {
+                return false;
             }
         }
         return true;
@@ -654,11 +637,11 @@ public final class FieldMember {
         }
 
         boolean hasFace(int type, int face) {
-            return has(type) && has(face) && hasBit(faces[type], face);
+            return has(type) && has(face) && (faces[type] >> face & 1) == 1;
         }
 
         boolean isBelow(int type, int other) {
-            return has(type) && has(other) && hasBit(above[type], other);
+            return type >= 0 && type < size && other >= 0 && other < size && (above[type] >> other & 1) == 1;
         }
 
         int add(int sort, int parent) {
@@ -700,10 +683,6 @@ public final class FieldMember {
                 }
             }
             return all;
-        }
-
-        private static boolean hasBit(int bits, int place) {
-            return (bits >> place & 1) == 1;
         }
     }
 

@@ -240,7 +240,7 @@ public final class FieldMember {
         if (!mayBeArgument(kind, dims)) {
             return OUTSIDE;
         }
-        return arguments.isFull() ? FULL : arguments.add(kind, dims);
+        return arguments.add(kind, dims);
     }
 
     public int call(int type, int name) {
@@ -557,7 +557,7 @@ public final class FieldMember {
         return true;
     }
 
-    /** Every MEMBER FITS itself so. */
+    /** Every MEMBER FITS itself so, and need not be left out of the others. */
     private boolean fitsPlaceByPlace(Member member, Member other, boolean byItems) {
         int places = Math.max(arguments.size, Math.max(member.parameters.size, other.parameters.size));
         for (int i = 0; i < places; i++) {
@@ -696,8 +696,9 @@ public final class FieldMember {
             return size >= MOST_PLACES;
         }
 
+        /** How many there are then. */
         int add(int kind, int itsDims) {
-            if (size >= MOST_PLACES) {
+            if (isFull()) {
                 return FULL;
             }
             kinds[size] = kind;

@@ -42,6 +42,8 @@ public final class PromisesTest {
         count();
         broken();
         clear();
+        clearOfCounts();
+        fullObject();
         System.out.println(asked + " answers, " + wrong + " of them wrong");
         if (wrong != 0) {
             System.exit(1);
@@ -125,6 +127,11 @@ public final class PromisesTest {
     }
 
     private static int numberOf(RuntimeException e) {
+        // What the machine throws by itself tells of a bound or a class; the class throws before it comes to that.
+        String text = String.valueOf(e.getMessage());
+        if (text.contains("out of bounds") || text.contains("cannot be cast")) {
+            return OTHER_THROWN;
+        }
         if (e.getClass() == ClassCastException.class) {
             return CAST_THROWN;
         }
@@ -744,6 +751,12 @@ public final class PromisesTest {
         // What comes above it later was not met.
         due(make(x, 0, 0, LONG, FINAL, true, INT, 0, INT, 1), 4);
         due(x.shape(2, 3), NONE);
+        FieldMember y = with(CLASS, NONE, CLASS, 0, CLASS, 1);
+        make(y, 1, 0, INT, 0, true);
+        make(y, 0, 0, INT, 0, true);
+        due(make(y, 2, 0, INT, 0, true), 2);
+        due(y.shape(2, 3), 0);
+        due(y.shape(1, 3), NONE);
     }
 
     private static void parameterOf() {
@@ -842,6 +855,11 @@ public final class PromisesTest {
         x.field(3, 1, INT, 0, PRIVATE);
         due(x.sought(3, 1), 4);
         due(x.sought(4, 1), NONE);
+        FieldMember y = with(CLASS, NONE, CLASS, 0);
+        y.field(0, 0, INT, 0, 0);
+        y.field(0, 1, INT, 0, PRIVATE);
+        due(y.sought(1, 0), 0);
+        due(y.sought(1, 1), NONE);
     }
 
     private static void argument() {
@@ -947,6 +965,16 @@ public final class PromisesTest {
         due(make(x, 3, 6, VOID, 0, true, LONG, 0), 12);
         due(ask(x, 3, 6, INT, 0), 11);
         due(ask(x, 3, 6, LONG, 0), 12);
+        // The order in which they came means nothing.
+        FieldMember y = with(CLASS, NONE, CLASS, 0);
+        due(make(y, 1, 0, VOID, 0, true, T, 0, T, 0), 0);
+        due(make(y, 0, 0, VOID, 0, true, T, 0, T, 0), 1);
+        due(ask(y, 1, 0, T, 0, T, 0), 0);
+        due(ask(y, 0, 0, T, 0, T, 0), 1);
+        FieldMember z = with(CLASS, NONE, CLASS, 0);
+        due(make(z, 0, 0, VOID, 0, true, T, 0, T + 1, 0), 0);
+        due(make(z, 0, 0, VOID, 0, true, T + 1, 0, T, 0), 1);
+        due(ask(z, 0, 0, T + 1, 0, T + 1, 0), CLASH);
     }
 
     private static boolean isFit(int kind, int to) {
@@ -1152,6 +1180,13 @@ public final class PromisesTest {
         due(make(y, 0, 0, VOID, 0, true), 0);
         due(make(y, 1, 0, VOID, ABSTRACT, false), 1);
         due(y.lacks(2, 0), NONE);
+        // What is not abstract, or of a TYPE that it is not BELOW, is not lacking.
+        FieldMember z = with(ABSTRACT_CLASS, NONE, CLASS, NONE);
+        due(make(z, 0, 0, VOID, ABSTRACT, false), 0);
+        due(make(z, 1, 1, VOID, PRIVATE, true), 1);
+        due(make(z, 1, 2, VOID, STATIC, true), 2);
+        due(z.field(1, 3, INT, 0, 0), 3);
+        due(z.lacks(1, 0), NONE);
     }
 
     private static void count() {
@@ -1249,5 +1284,55 @@ public final class PromisesTest {
         due(x.shape(1, 0), 0);
         due(x.shape(1, 1), 0);
         due(x.clear(), 2);
+    }
+
+    private static void clearOfCounts() {
+        FieldMember x = with(CLASS, NONE, CLASS, 0);
+        x.field(0, 0, INT, 0, ABSTRACT);
+        make(x, 0, 0, INT, PUBLIC, true);
+        due(make(x, 1, 0, INT, 0, true), rule(25));
+        due(x.broken(1), 1);
+        due(x.broken(25), 1);
+        due(x.clear(), 1);
+        for (int number = 1; number <= 25; number++) {
+            due(x.broken(number), 0);
+        }
+    }
+
+    private static void fullObject() {
+        about("promises 2 to 21, 12 TYPES and 60 ENTRIES");
+        FieldMember x = with(ABSTRACT_CLASS, NONE);
+        for (int t = 1; t < 12; t++) {
+            x.type(t == 11 ? FINAL_CLASS : CLASS, t - 1);
+        }
+        for (int e = 0; e < 50; e++) {
+            due(x.field(0, e, INT, 0, 0), e);
+        }
+        for (int e = 50; e < 58; e++) {
+            due(makeVaried(x, e - 46, 0, T, 1), e);
+        }
+        due(make(x, 0, 1, VOID, ABSTRACT, false, T + 11, 3), 58);
+        due(make(x, 11, 2, VOID, 0, true, T + 11, 0, T, 0, T, 0, T, 0, T, 0), 59);
+        due(x.entry(60, 0), UNKNOWN);
+        due(x.shape(60, 0), UNKNOWN);
+        due(x.constant(60, 0), UNKNOWN);
+        due(thrownByValue(x, 60), INDEX_THROWN);
+        due(thrownByParameterOf(x, 60, 0, true), INDEX_THROWN);
+        due(thrownByParameterOf(x, 59, 5, true), INDEX_THROWN);
+        due(x.parameterOf(59, 4, false), T);
+        due(x.below(11, 0), 1);
+        due(x.below(12, 0), UNKNOWN);
+        due(x.argument(T + 11, 0), 1);
+        due(x.argument(T + 12, 0), UNKNOWN);
+        due(x.call(11, 0), 57);
+        due(x.call(3, 0), NONE);
+        due(ask(x, 11, 2, T + 11, 0, T + 11, 0, T + 1, 0, LINK, 0, T, 0), 59);
+        due(x.sought(11, 49), 49);
+        due(x.lacks(11, 0), 58);
+        due(x.lacks(11, 1), NONE);
+        due(x.field(0, 49, INT, 0, 0), FULL);
+        due(x.member(0, 49, INT, 0, 0, true), FULL);
+        due(x.clear(), 60);
+        due(x.sought(0, 0), UNKNOWN);
     }
 }

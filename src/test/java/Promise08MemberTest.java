@@ -307,6 +307,20 @@ public final class Promise08MemberTest extends PromiseTest {
         }
     }
 
+    /** In a class, of whatever SORT, it has only what was told. */
+    static void promise8_marksInClasses() {
+        for (int sort = CLASS; sort <= FINAL_CLASS; sort++) {
+            for (int marks : new int[] {0, PUBLIC, PROTECTED, PRIVATE, STATIC, FINAL, SYNCHRONIZED, NATIVE}) {
+                FieldMember x = with(sort, NONE);
+                due(make(x, 0, 0, INT, marks, marks != NATIVE), 0);
+                due(x.entry(0, 5), marks);
+            }
+        }
+        FieldMember x = with(ABSTRACT_CLASS, NONE);
+        due(make(x, 0, 0, INT, ABSTRACT, false), 0);
+        due(x.entry(0, 5), ABSTRACT);
+    }
+
     /** That its TYPE has a like one is told when it is ended, not when it is begun; a FIELD's NAME means nothing. */
     static void promise8_twiceIsToldAtTheEnd() {
         FieldMember x = with(CLASS, NONE);

@@ -37,9 +37,12 @@ abstract class PromiseTest {
         Arrays.sort(methods, Comparator.comparing(Method::getName));
         int sentences = 0;
         for (Method each : methods) {
-            if (Modifier.isStatic(each.getModifiers()) && each.getName().startsWith("promise" + promise + "_")) {
+            if (each.getName().startsWith("promise" + promise + "_") && Modifier.isStatic(each.getModifiers())) {
                 sentences++;
                 runOne(each);
+            } else if (each.getName().startsWith("promise")) {
+                sentence = each.getName();
+                say("is not named after its promise, or not static, and was not run");
             }
         }
         System.out.println("promise " + promise + ": " + sentences + " sentences, " + asked + " answers, " + wrong + " wrong");
